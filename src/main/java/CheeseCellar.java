@@ -967,6 +967,8 @@ public final class CheeseCellar {
         final Tokens tokens = new Tokens();
         int next;
         int token;
+        int place;
+        int number;
         int operands;
         int faultKind = NO_FAULT;
         int faultPlace = NONE;
@@ -974,7 +976,7 @@ public final class CheeseCellar {
         boolean read(Tape tape, Orders into) {
             tokens.cut(tape);
             next = 0;
-            token = tokens.kinds[0];
+            step();
             operands = 0;
             faultKind = NO_FAULT;
             faultPlace = NONE;
@@ -988,15 +990,17 @@ public final class CheeseCellar {
         }
 
         private void step() {
-            if (next + 1 < tokens.count) {
-                next++;
+            if (next < tokens.count) {
                 token = tokens.kinds[next];
+                place = tokens.places[next];
+                number = tokens.numbers[next];
+                next++;
             }
         }
 
         private boolean refuse(int kind) {
             faultKind = token == NO_TOKEN ? FAULT_NO_TOKEN : kind;
-            faultPlace = isUpTo(next, TAPE_BYTES) ? tokens.places[next] : NONE;
+            faultPlace = place;
             return false;
         }
 
@@ -1092,7 +1096,7 @@ public final class CheeseCellar {
                 return refuse(FAULT_NO_SUCH_NAME);
             }
             operands++;
-            into.addItem(isName || !isUpTo(next, TAPE_BYTES) ? ~token : tokens.numbers[next]);
+            into.addItem(isName ? ~token : number);
             step();
             return true;
         }

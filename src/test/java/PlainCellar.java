@@ -278,6 +278,7 @@ final class PlainCellar {
 
     private int bestSum;
     private int[] best;
+    private boolean[][] fits;
 
     int plan() {
         List<Integer> who = new ArrayList<>();
@@ -297,10 +298,12 @@ final class PlainCellar {
         best = null;
         bestSum = Integer.MAX_VALUE;
         int[] leastOfRest = new int[who.size() + 1];
+        fits = new boolean[who.size()][24];
         for (int i = who.size() - 1; i >= 0; i--) {
             int least = 1000;
             for (int s = 0; s < 24; s++) {
-                if (room[s] > 0 && suited(wheels.get(who.get(i)), s)) {
+                fits[i][s] = suited(wheels.get(who.get(i)), s);
+                if (room[s] > 0 && fits[i][s]) {
                     least = Math.min(least, way(wheels.get(who.get(i)).shelf, s));
                 }
             }
@@ -333,7 +336,7 @@ final class PlainCellar {
         }
         Wheel w = wheels.get(who.get(i));
         for (int s = 0; s < 24; s++) {
-            if (room[s] > 0 && suited(w, s)) {
+            if (room[s] > 0 && fits[i][s]) {
                 room[s]--;
                 chosen[i] = s;
                 tryOut(who, room, i + 1, sum + way(w.shelf, s), chosen, leastOfRest);
