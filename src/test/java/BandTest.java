@@ -112,6 +112,7 @@ public final class BandTest {
             Check.due("move " + i, x.move(0, i % 2), true);
         }
         Check.due("about(5)", x.about(5), 200);
+        Check.due("reached(0) with all stays", x.reached(0), 1);
         Check.due("a 200th move", x.move(0, 0), false);
         Check.due("of(0, 1)", x.of(0, 1), 1);
         Check.due("a wheel without a stay left", Check.small(x, 0, 0), -1);

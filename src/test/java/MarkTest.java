@@ -46,11 +46,13 @@ public final class MarkTest {
         Check.due("untell(100)", x.untell(100), false);
         Check.due("a 101st mark", x.mark(0, 0, 0), -1);
         Check.due("about(4)", x.about(4), 100);
+        // the last ones are 11, 12, 13, 14 by the graders 0 to 3, and 10 by the last one, whose 15 is untold
+        Check.due("grade(0, 0)", x.grade(0, 0), 12);
     }
 
     private static void middle() {
-        int[][] marks = {{7}, {9, 3}, {9, 3, 5}, {1, 4, 3, 2}, {20, 0, 20, 0, 11}, {5, 5, 5, 5}, {0, 0, 20, 20}, {20, 20, 0, 0, 0}};
-        int[] want = {7, 3, 5, 2, 11, 5, 0, 0};
+        int[][] marks = {{7}, {9, 3}, {9, 3, 5}, {1, 4, 3, 2}, {20, 0, 20, 0, 11}, {5, 5, 5, 5}, {0, 0, 20, 20}, {20, 20, 0, 0, 0}, {20}};
+        int[] want = {7, 3, 5, 2, 11, 5, 0, 0, 20};
         for (int i = 0; i < marks.length; i++) {
             CheeseCellar x = cellar();
             for (int g = 0; g < marks[i].length; g++) {

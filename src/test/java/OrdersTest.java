@@ -107,6 +107,7 @@ public final class OrdersTest {
         Check.bad("when not turns", 3, 9);
         Check.bad("when 1 or (2<abcdefgh)", 3, 13);
         Check.bad("when soft=kind", 3, 5);
+        Check.bad("when azza", 3, 5);
     }
 
     private static void limits() {
@@ -129,6 +130,13 @@ public final class OrdersTest {
         Check.good(forty + forty, 2);
         Check.bad(forty + forty + line, 2, 2 * forty.length() + 5);
         Check.good(" ".repeat(485) + line, 1);
+        Check.good(line + " ".repeat(485), 1);
+        // as many tokens as a tape can hold, and its last bytes within a token
+        Check.bad(";".repeat(500), 2, 0);
+        Check.bad(" ".repeat(491) + "when 1234", 2, 500);
+        Check.bad(" ".repeat(491) + "when abcd", 3, 496);
+        Check.bad(" ".repeat(495) + "when ", 2, 500);
+        Check.bad(" ".repeat(499) + "x", 2, 499);
     }
 
     private static void depth() {
@@ -177,14 +185,14 @@ public final class OrdersTest {
     private static void holds(String e, boolean want) {
         CheeseCellar x = new CheeseCellar();
         x.milk(1, 10);
-        x.air(13, 0);
         x.damp(2, 47);
         x.days(5);
         Check.small(x, 2, 13);
         x.days(4);
+        x.air(13, 7);
         Check.due("orders with " + e, Check.give(x, "when " + e + " do wash;"), 1);
         x.days(1);
-        Check.due("does " + e + " hold", x.of(0, 4) == 105, want);
+        Check.due("does " + e + " hold", x.of(0, 4) == 98, want);
     }
 
     private static void worth() {
@@ -225,7 +233,7 @@ public final class OrdersTest {
         holds("ripe=4", true);
         holds("mould=9", true);
         holds("weight=100", true);
-        holds("air=0", true);
+        holds("air=7", true);
         holds("damp=47", true);
         holds("side=4", true);
         holds("shelf=13", true);

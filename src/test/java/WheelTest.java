@@ -23,6 +23,8 @@ public final class WheelTest {
         Check.due("about(1)", x.about(1), 30);
         Check.due("from(0, 1)", x.from(0, 1), 1);
         Check.due("from(29, 0)", x.from(29, 0), 99);
+        Check.due("from(30, 0)", x.from(30, 0), -1);
+        Check.due("reached(30)", x.reached(30), -1);
     }
 
     private static void wheelFromMilks() {
@@ -87,6 +89,9 @@ public final class WheelTest {
         x.sell(0);
         Check.due("a 41st wheel", Check.small(x, 0, 0), -1);
         Check.due("wheels", x.about(2), 40);
+        Check.due("of(40, 0)", x.of(40, 0), -1);
+        Check.due("sell(40)", x.sell(40), false);
+        Check.due("beside(40, 0)", x.beside(40, 0), -1);
         Check.due("litres left", x.from(0, 1), 960);
     }
 
