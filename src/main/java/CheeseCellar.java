@@ -45,7 +45,7 @@ public final class CheeseCellar {
     private static final int MOST_DIGITS = 6;
 
     /** All words that mean something, each at eight times its token number, filled up with blanks. */
-    private static final String WORDS = 
+    private static final String WORDS =
         "when    do      turn    wash    brush   or      and     not     kind    age     ripe    mould   weight  air     damp    side    shelf   day     ";
     private static final int WORD_BYTES = 8;
     private static final int WORD_COUNT = 18;
@@ -1107,6 +1107,7 @@ public final class CheeseCellar {
      * the shelf's number, so that the least sum of prices is at once the first among like ways.
      */
     private static final class Planner {
+        /** 24 to the power of 10: above ten digits of base 24, one for the shelf of each wheel. */
         private static final long WAY_PRICE = 63403380965376L;
         private static final long NEVER = Long.MAX_VALUE;
 
