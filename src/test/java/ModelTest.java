@@ -46,12 +46,16 @@ public final class ModelTest {
 
     private void go() {
         wildness = 20 + 40 * (run % 3);
-        int shelves = run % 4 == 0 ? 23 : run % 4 == 1 ? 2 : 8;
+        int shelves = run % 5 < 2 ? 23 : run % 5 == 2 ? 2 : 8;
         for (int i = 0; i < 20; i++) {
             step(dice.upTo(5), shelves);
         }
+        // every other run does one thing so often that its limit is reached
+        int[] favourites = {2, 10, 21, 16, 5, 32};
+        int favourite = favourites[run / 2 % favourites.length];
         for (int i = 20; i < 512; i++) {
-            step(dice.upTo(35), shelves);
+            boolean isFavourite = run % 2 == 1 && dice.oneIn(2);
+            step(isFavourite ? favourite : dice.upTo(35), shelves);
         }
         look();
     }
