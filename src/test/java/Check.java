@@ -2,15 +2,21 @@
 final class Check {
     private static int wrong = 0;
     private static int asked = 0;
+    private static String sentence = "";
 
     private Check() {
+    }
+
+    /** The document's sentence that the answers from here on are asked for. */
+    static void says(String words) {
+        sentence = "\"" + words + "\": ";
     }
 
     static void due(String call, long got, long want) {
         asked++;
         if (got != want) {
             wrong++;
-            System.out.println(call + " answered " + got + ", due is " + want);
+            System.out.println(sentence + call + " answered " + got + ", due is " + want);
         }
     }
 
@@ -61,6 +67,15 @@ final class Check {
         due("fault(0) of '" + text + "'", x.fault(0), fault);
         due("fault(1) of '" + text + "'", x.fault(1), place);
         due("about(3) of '" + text + "'", x.about(3), 0);
+    }
+
+    /** The numbers next to 0 .. most on both sides, and the farthest ones. */
+    static int[] outside(int most) {
+        return outside(0, most);
+    }
+
+    static int[] outside(int least, int most) {
+        return new int[] {Integer.MIN_VALUE, least - 2, least - 1, most + 1, most + 2, Integer.MAX_VALUE};
     }
 
     /** A wheel of one litre of milk 0. */
