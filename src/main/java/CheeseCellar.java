@@ -748,27 +748,20 @@ public final class CheeseCellar {
         int count;
 
         void cut(Tape tape) {
-            count = 0;
             int place = 0;
+            count = 0;
             for (int i = 0; i <= TAPE_BYTES; i++) {
                 place = behindBlanks(tape, place);
-                int kind = keepOne(tape, place);
+                int kind = kindOf(tape, place);
+                kinds[i] = kind;
+                places[i] = place;
+                numbers[i] = kind == NUMBER ? numberOf(tape, place) : 0;
+                count = i + 1;
                 if (kind == TEXT_END || kind == NO_TOKEN) {
                     return;
                 }
                 place += lengthAt(tape, place);
             }
-        }
-
-        private int keepOne(Tape tape, int place) {
-            if (count > TAPE_BYTES) {
-                return NO_TOKEN;
-            }
-            kinds[count] = kindOf(tape, place);
-            places[count] = place;
-            numbers[count] = kinds[count] == NUMBER ? numberOf(tape, place) : 0;
-            count++;
-            return kinds[count - 1];
         }
 
         private static int behindBlanks(Tape tape, int place) {
@@ -1109,7 +1102,8 @@ public final class CheeseCellar {
     private static final class Planner {
         /** 24 to the power of 10: above ten digits of base 24, one for the shelf of each wheel. */
         private static final long WAY_PRICE = 63403380965376L;
-        private static final long NEVER = Long.MAX_VALUE;
+        /** Above any sum of ten prices, and of what a chain of changes adds to one. */
+        private static final long NEVER = 1L << 62;
 
         final int[] wheelOf = new int[MOST_PLANNED];
         final int[] homeOf = new int[MOST_PLANNED];
